@@ -1,6 +1,6 @@
 /** Each promise by ordinary inputs, by the edges that the document names, and by wrong inputs. */
 public final class PromisesTest {
-    private static final int NONE = FillForecast.NONE;
+    private static final int NONE = -1;
     private static final int[] FAR_OFF = {-1, Integer.MIN_VALUE, Integer.MAX_VALUE};
     private static final Due DUE = new Due();
 
@@ -13,11 +13,13 @@ public final class PromisesTest {
         promise6Holiday();
         promise7Mean();
         promise7MeanOfManyGains();
+        promise7MeanOfOneGain();
         promise8Rate();
         promise9Weight();
         promise10Expected();
         promise10ExpectedByPoints();
         promise11Wrong();
+        promise11WrongInFullBin();
         promise12Quiet();
         promise13Silent();
         promise14Over();
@@ -262,6 +264,16 @@ public final class PromisesTest {
         same("7: exact with the largest sums", y.mean(0, 0), 36000);
     }
 
+    private static void promise7MeanOfOneGain() {
+        FillForecast x = withBin(10);
+        x.fade(1, 1);
+        x.row(0, 0, 0);
+        x.row(0, 24, 17);
+        same("7: one gain of weight 1", x.mean(0, 1), 17);
+        x.row(0, 24, 0);
+        same("7: one gain of 0", x.mean(0, 1), 0);
+    }
+
     private static void promise8Rate() {
         FillForecast x = new FillForecast();
         same("8: no bin", x.rate(0, 0), NONE);
@@ -395,6 +407,23 @@ public final class PromisesTest {
         same("11: put right", x.wrong(0, 0), NONE);
     }
 
+    private static void promise11WrongInFullBin() {
+        FillForecast x = withBin(1000);
+        for (int i = 7; i >= 0; i--) {
+            same("11: emptyings", x.emptied(0, 240 * i, 100 * i), 8 - i);
+        }
+        for (int i = 23; i >= 0; i--) {
+            same("11: rows", x.row(0, 1700 + i, 1000 - i), 24 - i);
+        }
+        same("11: first", x.wrong(0, 0), 1701);
+        same("11: last", x.wrong(0, 22), 1723);
+        same("11: no more", x.wrong(0, 23), NONE);
+        same("11: the gain of the one right row", x.mean(0, 0), 1200);
+        same("11: last emptying", x.check(0, 7), 700 - (9 * 100 + 1200));
+        same("11: no ninth emptying", x.check(0, 8), Long.MIN_VALUE);
+        same("11: by the one right row", x.expected(0, 1723), (24 * 1000 + 4 * 1200 + 19 * 100) / 24);
+    }
+
     private static void promise12Quiet() {
         FillForecast x = withBin(10);
         x.row(0, 100, 5);
@@ -514,6 +543,7 @@ public final class PromisesTest {
         same("17: least", x.day(0, 0, 416), 10);
         same("17: the last with it", x.day(0, 0, 10), 10);
         same("17: the first with it", x.day(0, 10, 416), 10);
+        same("17: the second", x.day(0, 9, 416), 10);
         same("17: before it", x.day(0, 0, 9), 9);
         same("17: behind it", x.day(0, 11, 416), 11);
         same("17: one day", x.day(0, 416, 416), 416);

@@ -1,16 +1,19 @@
 /** Compares answers with those that are due, prints the others and counts them. */
 final class Due {
     private static final int PRINTED_AT_MOST = 50;
+    private String place = "";
     private int asked = 0;
     private int failed = 0;
+
+    /** Names the case that the next answers belong to. */
+    void enter(String name) {
+        place = name + ": ";
+    }
 
     void same(String call, long got, long want) {
         asked++;
         if (got != want) {
-            failed++;
-            if (failed <= PRINTED_AT_MOST) {
-                System.out.println(call + " answered " + got + ", due is " + want);
-            }
+            fail(call + " answered " + got + ", due is " + want);
         }
     }
 
@@ -20,6 +23,13 @@ final class Due {
 
     void no(String call, boolean got) {
         same(call, got ? 1 : 0, 0);
+    }
+
+    void fail(String text) {
+        failed++;
+        if (failed <= PRINTED_AT_MOST) {
+            System.out.println(place + text);
+        }
     }
 
     void end() {

@@ -349,12 +349,14 @@ public final class BoundsTest {
         FillForecast x = withRows(143, 0, 144, 1);
         for (int day : new int[] {-1, 417, LEAST, MOST}) {
             DUE.no("on " + day, x.holiday(day, true));
-            DUE.no("off " + day, x.holiday(day, false));
         }
         same("no holiday", x.rate(0, 0), 100);
         same("no holiday", x.rate(0, 416), 100);
         DUE.yes("first", x.holiday(0, true));
         DUE.yes("last", x.holiday(416, true));
+        for (int day : new int[] {-1, 417, LEAST, MOST}) {
+            DUE.no("off " + day, x.holiday(day, false));
+        }
         same("first", x.rate(0, 0), 24);
         same("second", x.rate(0, 1), 100);
         same("last but one", x.rate(0, 415), 100);

@@ -5,7 +5,7 @@ import java.lang.reflect.Modifier;
 import java.util.Set;
 import java.util.TreeSet;
 
-/** The face of the class is the document's, and no more. */
+/** The face of the class is the document's, and no more; no method behind it bears one of its names. */
 public final class FaceTest {
     private static final Set<String> FACE = Set.of(
             "class final",
@@ -44,8 +44,29 @@ public final class FaceTest {
             due.yes(inside.getName() + " is static", Modifier.isStatic(modifiers));
             due.no(inside.getName() + " is public or protected",
                     Modifier.isPublic(modifiers) || Modifier.isProtected(modifiers));
+            lookAtNames(inside, due);
         }
+        lookAtNames(FillForecast.class, due);
         due.end();
+    }
+
+    /** LANGUAGE.md, rule 1: a name of the face is borne by no other method. */
+    private static void lookAtNames(Class<?> holder, Due due) {
+        for (Method method : holder.getDeclaredMethods()) {
+            boolean ofFace = holder == FillForecast.class && Modifier.isPublic(method.getModifiers());
+            due.no(holder.getName() + "." + method.getName() + " bears a name of the face",
+                    !ofFace && namesOfFace().contains(method.getName()));
+        }
+    }
+
+    private static Set<String> namesOfFace() {
+        Set<String> names = new TreeSet<>();
+        for (Method method : FillForecast.class.getDeclaredMethods()) {
+            if (Modifier.isPublic(method.getModifiers())) {
+                names.add(method.getName());
+            }
+        }
+        return names;
     }
 
     private static Set<String> visibleMembers() {
